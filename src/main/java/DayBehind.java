@@ -699,7 +699,8 @@ public final class DayBehind {
         for (int goes = 0; goes <= LAST_CLOCK; goes++) {
             for (int comes = 0; comes <= LAST_CLOCK; comes++) {
                 startTrialByClocks(one, goes, comes);
-                best.offer(DAY * goes + comes, purseInTrial(one, n));
+                trial.passHours(n);
+                best.offer(DAY * goes + comes, trial.people[one].purse);
             }
         }
     }
@@ -730,31 +731,23 @@ public final class DayBehind {
         }
 
         static int gain(int kind, int worth, boolean known) {
-            return known ? gainOfKnown(kind, worth) : gainOfNew(kind, worth);
-        }
-
-        private static int gainOfNew(int kind, int worth) {
+            int asPerson = worth;
             int asDebtor = worth / 2;
+            int asBaker = worth + worth / 2;
+            int asLover = asDebtor + 3;
+            if (known) {
+                asPerson = worth > 0 ? 2 * worth : 0;
+                asDebtor = asPerson - 1;
+                asBaker = asPerson;
+                asLover = asDebtor + 10;
+            }
             switch (kind) {
                 case BAKER:
-                    return worth + worth / 2;
+                    return asBaker;
                 case DEBTOR:
                     return asDebtor;
                 case LOVER:
-                    return asDebtor + 3;
-                default:
-                    return worth;
-            }
-        }
-
-        private static int gainOfKnown(int kind, int worth) {
-            int asPerson = worth > 0 ? 2 * worth : 0;
-            int asDebtor = asPerson - 1;
-            switch (kind) {
-                case DEBTOR:
-                    return asDebtor;
-                case LOVER:
-                    return asDebtor + 10;
+                    return asLover;
                 default:
                     return asPerson;
             }
@@ -1288,28 +1281,20 @@ public final class DayBehind {
                 token = END;
             } else if (isLetter(bytes[place])) {
                 token = WORD;
-                passWord();
+                while (behind < length && isLetter(bytes[behind])) {
+                    behind++;
+                }
             } else if (isDigit(bytes[place])) {
                 token = NUMBER;
-                passNumber();
+                value = 0;
+                while (behind < length && isDigit(bytes[behind])) {
+                    // One above the greatest that may be is enough: a long row of digits must not wrap around.
+                    value = Math.min(10 * value + bytes[behind] - '0', MOST_NUMBER + 1);
+                    behind++;
+                }
             } else {
                 token = bytes[place] == ';' ? SIGN : STRANGE;
                 behind = place + 1;
-            }
-        }
-
-        private void passWord() {
-            while (behind < length && isLetter(bytes[behind])) {
-                behind++;
-            }
-        }
-
-        private void passNumber() {
-            value = 0;
-            while (behind < length && isDigit(bytes[behind])) {
-                // One above the greatest that may be is enough: a long row of digits must not wrap around.
-                value = Math.min(10 * value + bytes[behind] - '0', MOST_NUMBER + 1);
-                behind++;
             }
         }
 

@@ -150,7 +150,9 @@ public final class PromiseTest {
         x.hours(1);
         due.is("eventOf(0, 3)", x.eventOf(0, 3), 7);
         due.is("eventOf(0, 5) gone", x.eventOf(0, 5), -1);
-        x.event(40, -1);
+        x.hours(1);
+        due.is("eventOf(0, 5) long gone", x.eventOf(0, 5), -1);
+        x.event(41, -1);
         x.one(FIREMAN, 1);
         x.set(3, 6, 2);
         x.hours(1);
@@ -661,6 +663,13 @@ public final class PromiseTest {
         x.set(0, 3, 9);
         due.is("of(0, 3) stays", x.of(0, 3), 9);
         due.is("clocks(0, 48): what they are does not count", x.clocks(0, 48), 24 * 3 + 3);
+        DayBehind y = new DayBehind();
+        y.one(PERSON, 0);
+        y.toll(20);
+        // 99 on the right at 22, over at 23, 198 on the left at 46, and not back but at 23 again: after the 47th hour.
+        y.event(22, 99);
+        due.is("rich(0, 47)", y.rich(0, 47), 50 + 99 - 20 + 198);
+        due.is("clocks(0, 47)", y.clocks(0, 47), 24 * 23 + 23);
         due.is("clocks(0, 49)", x.clocks(0, 49), BEYOND);
         due.is("clocks(0, -1)", x.clocks(0, -1), BEYOND);
         due.is("clocks(1, 1)", x.clocks(1, 1), BEYOND);
@@ -712,6 +721,7 @@ public final class PromiseTest {
         x.toll(99);
         due.is("bank(0, 72): no toll is paid for it", x.bank(0, 72), 1);
         due.is("of(0, 1)", x.of(0, 1), 1);
+        due.is("bank(0, 0)", x.bank(0, 0), 0);
         due.is("bank(0, 73)", x.bank(0, 73), BEYOND);
         due.is("bank(0, -1)", x.bank(0, -1), BEYOND);
         due.is("bank(1, 1)", x.bank(1, 1), BEYOND);
@@ -762,6 +772,7 @@ public final class PromiseTest {
         x.event(6, -10);
         x.event(7, 20);
         x.event(8, -20);
+        due.is("news(0, 0)", x.news(0, 0), NONE);
         due.is("news(0, 5)", x.news(0, 5), NONE);
         due.is("news(0, 6)", x.news(0, 6), 0);
         due.is("news(0, 7): as much, the least", x.news(0, 7), 0);
@@ -805,6 +816,11 @@ public final class PromiseTest {
         due.is("count(0)", x.count(0), 4);
         x.hours(1);
         due.is("needed(5): met already", x.needed(5), NONE);
+        DayBehind y = new DayBehind();
+        y.one(FIREMAN, 1);
+        y.event(60, -9);
+        y.set(0, 6, 1);
+        due.is("needed(1): the only one", y.needed(1), 0);
         due.is("needed(73)", x.needed(73), BEYOND);
         due.is("needed(-1)", x.needed(-1), BEYOND);
     }
@@ -816,6 +832,7 @@ public final class PromiseTest {
         due.is("sum(0, 72) with nobody", x.sum(0, 72), 0);
         x.one(BAKER, 0);
         x.one(DEBTOR, 1);
+        due.is("sum(0, 0)", x.sum(0, 0), 0);
         due.is("sum(0, 2)", x.sum(0, 2), 0);
         due.is("sum(0, 3)", x.sum(0, 3), 31);
         due.is("sum(0, 27)", x.sum(0, 27), 41);
@@ -938,6 +955,17 @@ public final class PromiseTest {
         fault("event 5 worth less less 1", 19);
         fault("event 5 worth -1", 14);
         fault("event 5 worth 1 left", 16);
+        fault("event;", 5);
+        fault("event 5;", 7);
+        fault("event 5 worth;", 13);
+        fault("event 5 worth less;toll 5", 18);
+        fault("person purse;", 12);
+        fault("person goes;", 11);
+        fault("person comes ; toll 5", 13);
+        fault("toll;", 4);
+        fault("berson", 0);
+        fault("personz", 0);
+        fault("person aleft", 7);
         fault("toll", 4);
         fault("toll 100", 5);
         fault("toll less 1", 5);
@@ -1005,6 +1033,9 @@ public final class PromiseTest {
         due.is("sheet(0, 16, 3): anew", x.sheet(0, 16, 3), 3);
         due.is("sheet(0, 8, 40)", x.sheet(0, 8, 40), 40);
         due.is("write(0, 39, 1)", x.write(0, 39, 1L), 0);
+        due.is("write(0, 0, 1)", x.write(0, 0, 1L), 0);
+        due.is("sheet(0, 8, 1): all 0", x.sheet(0, 8, 1), 1);
+        due.is("write(0, 0, 1)", x.write(0, 0, 1L), 0);
         due.is("sheet(0, 0, 7)", x.sheet(0, 0, 7), 0);
         due.is("write(0, 0, 1)", x.write(0, 0, 1L), MISSING);
         due.is("lays(0)", x.lays(0), MISSING);
@@ -1216,6 +1247,22 @@ public final class PromiseTest {
         due.is("a new one is as new", x.one(PERSON, 0), 2);
         due.is("of(2, 6)", x.of(2, 6), 0);
         due.is("status(3)", x.status(3), 2);
+        DayBehind y = new DayBehind();
+        y.image();
+        y.one(FIREMAN, 1);
+        y.event(9, -9);
+        y.set(0, 6, 1);
+        y.cross(0);
+        y.cross(0);
+        y.hours(1);
+        y.undo();
+        due.is("number 0 again", y.one(PERSON, 0), 0);
+        due.is("event 0 again", y.event(4, 4), 0);
+        int[] anew = {0, 0, 50, -1, -1, 0, 0};
+        for (int what = 0; what < 7; what++) {
+            due.is("anew: of(0, " + what + ")", y.of(0, what), anew[what]);
+        }
+        due.is("anew: eventOf(0, 2)", y.eventOf(0, 2), 0);
     }
 
     private static void count() {
