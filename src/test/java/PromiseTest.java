@@ -55,6 +55,7 @@ public final class PromiseTest {
         river();
         riverFaults();
         riverNinth();
+        riverOfAWholeTape();
         sheet();
         write();
         copy();
@@ -1013,6 +1014,23 @@ public final class PromiseTest {
         due.is("one too many", Due.river(x, "event"), -1);
         due.is("toll can still stand", Due.river(x, "toll 9"), 1);
         due.is("toll(5)", x.toll(5), 9);
+    }
+
+    private static void riverOfAWholeTape() {
+        due.part("31 river: a whole tape");
+        DayBehind x = new DayBehind();
+        Due.feed(x, "toll 77  ;;");
+        x.wipe();
+        due.is("what was wiped is gone", Due.river(x, "toll 7"), 1);
+        due.is("toll(5)", x.toll(5), 7);
+        due.is("digits to the end", Due.river(x, "toll " + "0".repeat(114) + "8"), 1);
+        due.is("toll(5)", x.toll(5), 8);
+        due.is("blanks to the end", Due.river(x, "toll 9" + " ".repeat(114)), 1);
+        due.is("toll(5)", x.toll(5), 9);
+        due.is("letters to the end", Due.river(x, "toll 3;" + "e".repeat(113)), -1 - 7);
+        due.is("blanks alone", Due.river(x, " ".repeat(120)), -1 - 120);
+        due.is("twenty items", Due.river(x, "toll1;".repeat(19) + "toll2 "), 20);
+        due.is("toll(5)", x.toll(5), 2);
     }
 
     private static void sheet() {
