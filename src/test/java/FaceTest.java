@@ -124,7 +124,10 @@ public final class FaceTest {
         while (m.find()) {
             methods++;
             int lines = m.group(2).split("\n").length;
-            due.holds("at most sixty lines: " + m.group().split("\n")[0].trim(), lines <= 60);
+            String head = m.group().split("\n")[0].trim();
+            due.holds("at most sixty lines: " + head, lines <= 60);
+            boolean constructs = head.matches("(public )?[A-Z]\\w*\\(\\) \\{");
+            due.holds("made by constructors alone: " + head, constructs || !m.group(2).matches("(?s).*\\bnew\\b.*"));
         }
         due.holds("methods were found", methods > 80);
     }
