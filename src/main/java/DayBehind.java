@@ -1,6 +1,6 @@
 /**
  * A river between two days: the left bank is a day behind the right one.
- * Every object and row is made by the constructor and used again, so that no later call makes any.
+ * Every object and row but constants is made by the constructor and used again, so that no later call makes any.
  */
 public final class DayBehind {
     private static final int BEYOND = -1000000001;
